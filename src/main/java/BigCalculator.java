@@ -45,7 +45,7 @@ public final class BigCalculator {
     private static final int MOST_INSTRUCTIONS_A_CALL = 10000;
     private static final int REGISTERS = 10;
     private static final int VARIABLES = 8;
-    private static final int MOST_BITS = 768;
+    /** A value below 2^768 has at most so many limbs of 32 bits, and a greater one has more. */
     private static final int LIMBS = 24;
     /** Holds the product of two values and the limb more that a division shifts into. */
     private static final int ROOM_IN_LIMBS = 2 * LIMBS + 2;
@@ -61,13 +61,13 @@ public final class BigCalculator {
     private static final int MOST_GCD_STEPS = 2000;
 
     private final TokenRow tokens;
-    private final Compiler compiler;
+    private final Translator translator;
     private final Machine machine;
     private final Decimal decimal;
 
     public BigCalculator() {
         tokens = new TokenRow();
-        compiler = new Compiler();
+        translator = new Translator();
         machine = new Machine();
         decimal = new Decimal();
     }
@@ -84,12 +84,12 @@ public final class BigCalculator {
     }
 
     public int compile() {
-        int answer = compiler.translate(tokens);
-        if (answer == 0 && compiler.code.registersWanted() > REGISTERS) {
+        int answer = translator.translate(tokens);
+        if (answer == 0 && translator.code.registersWanted() > REGISTERS) {
             answer = TOO_MANY_REGISTERS;
         }
         if (answer != 0) {
-            compiler.code.size = 0;
+            translator.code.size = 0;
         }
         tokens.size = 0;
         machine.begin();
@@ -115,7 +115,7 @@ public final class BigCalculator {
         if (n < 0 || n > MOST_INSTRUCTIONS_A_CALL) {
             throw new IllegalArgumentException("not 0 .. 10000 instructions");
         }
-        return machine.advance(compiler.code, n);
+        return machine.advance(translator.code, n);
     }
 
     public int sign() throws IllegalStateException {
@@ -148,7 +148,7 @@ public final class BigCalculator {
             case 0:
                 return tokens.size;
             case 1:
-                return compiler.code.size;
+                return translator.code.size;
             case 2:
                 return machine.next;
             case 3:
@@ -187,7 +187,7 @@ public final class BigCalculator {
     }
 
     private boolean hasResult() {
-        return compiler.code.size > 0 && machine.next == compiler.code.size;
+        return translator.code.size > 0 && machine.next == translator.code.size;
     }
 
     private Whole result() {
@@ -198,7 +198,7 @@ public final class BigCalculator {
     }
 
     private void requireCode() {
-        if (compiler.code.size == 0) {
+        if (translator.code.size == 0) {
             throw new IllegalStateException("no code");
         }
     }
@@ -261,7 +261,7 @@ public final class BigCalculator {
      * all that they need is there; a row and not recursion, as 120 brackets deep
      * would be too many calls.
      */
-    private static final class Compiler {
+    private static final class Translator {
         private static final int OPERAND = 0;
         private static final int OPERATOR = 1;
         private static final int BRACKET = 2;
@@ -273,7 +273,7 @@ public final class BigCalculator {
         /** What the next token must be: OPERAND, OPERATOR or, behind a name, BRACKET. */
         private int expected;
 
-        Compiler() {
+        Translator() {
             code = new Code();
             waiting = new int[MOST_TOKENS];
             commasDue = new int[MOST_TOKENS];
@@ -469,7 +469,7 @@ public final class BigCalculator {
                 case TIMES:
                     return arithmetic.multiply(first, registers[lowest + 1]);
                 case DIVIDE:
-                    return arithmetic.divide(first, registers[lowest + 1]);
+                    return arithmetic.divideForQuotient(first, registers[lowest + 1]);
                 case REST:
                     return arithmetic.divideForRest(first, registers[lowest + 1]);
                 case POWER:
@@ -530,7 +530,7 @@ public final class BigCalculator {
             return store(product, a.negative != b.negative, a);
         }
 
-        int divide(Whole a, Whole b) {
+        int divideForQuotient(Whole a, Whole b) {
             if (b.magnitude.isZero()) {
                 return DIVISOR_IS_ZERO;
             }
@@ -920,9 +920,8 @@ public final class BigCalculator {
                 rest.limbs[at + i] = difference & LOW_BITS;
                 borrow = difference < 0 ? 1 : 0;
             }
-            long difference = rest.limbs[at + length] - carry - borrow;
-            rest.limbs[at + length] = difference & LOW_BITS;
-            return difference < 0;
+            // The limb above would be 0 now, or once added back; it is not written, as nothing looks at it again.
+            return rest.limbs[at + length] < carry + borrow;
         }
 
         private void addBack(int at) {
@@ -933,7 +932,6 @@ public final class BigCalculator {
                 rest.limbs[at + i] = sum & LOW_BITS;
                 carry = sum >>> LIMB_BITS;
             }
-            rest.limbs[at + length] = (rest.limbs[at + length] + carry) & LOW_BITS;
         }
 
         /** A dividend of 64 bits without a sign, where Java's own division would see one; divisor 1 .. 2^32 - 1. */

@@ -4,7 +4,9 @@ import java.lang.reflect.Field;
 import java.lang.reflect.Member;
 import java.lang.reflect.Method;
 import java.lang.reflect.Modifier;
+import java.util.ArrayList;
 import java.util.Arrays;
+import java.util.List;
 import java.util.TreeSet;
 
 /**
@@ -16,6 +18,7 @@ public final class FaceTests {
 
     public static void main(String[] args) {
         theFace();
+        theRules();
         theRoom();
         System.out.println(wrong == 0 ? "all answers are as due" : wrong + " answers are not as due");
         if (wrong != 0) {
@@ -73,6 +76,30 @@ public final class FaceTests {
                 "public int " + name + "count(int)")));
         due("classes inside that are public or not static", Arrays.stream(face.getDeclaredClasses())
                 .filter(c -> Modifier.isPublic(c.getModifiers()) || !Modifier.isStatic(c.getModifiers())).count(), 0L);
+    }
+
+    /** Of LANGUAGE.md: no private method has the name of a public one, and static fields are final. */
+    private static void theRules() {
+        TreeSet<String> names = new TreeSet<>();
+        for (Method method : BigCalculator.class.getMethods()) {
+            if (method.getDeclaringClass() == BigCalculator.class) {
+                names.add(method.getName());
+            }
+        }
+        List<Class<?>> classes = new ArrayList<>(Arrays.asList(BigCalculator.class.getDeclaredClasses()));
+        classes.add(BigCalculator.class);
+        due("more than twelve classes", classes.size() > 12, false);
+        for (Class<?> each : classes) {
+            for (Method method : each.getDeclaredMethods()) {
+                boolean named = !Modifier.isPublic(method.getModifiers()) && names.contains(method.getName());
+                due(each.getName() + "." + method.getName() + " with a public one's name", named, false);
+                due("more than seven parameters of " + method, method.getParameterCount() > 7, false);
+            }
+            for (Field field : each.getDeclaredFields()) {
+                boolean loose = Modifier.isStatic(field.getModifiers()) && !Modifier.isFinal(field.getModifiers());
+                due("static and not final: " + field, loose, false);
+            }
+        }
     }
 
     private static long allocated() {
