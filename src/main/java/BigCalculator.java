@@ -3,7 +3,7 @@
  * machine with registers, which runs it some instructions at a time.
  *
  * Every row and number is made with the object and written again and again, so
- * that no later call makes anything.
+ * that no later call makes anything but the exception that it throws.
  */
 public final class BigCalculator {
     public static final int NONE = -1;
