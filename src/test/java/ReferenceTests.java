@@ -6,7 +6,9 @@ import java.util.Random;
 /**
  * Long runs of calls, the same ones each time, on the class and on a plain model
  * of the document over BigInteger: every answer and every exception must be the
- * same, and after each call every count.
+ * same, and after each call every count. Some runs go on behind an object's
+ * 512th call, where the document leaves the answers free: this program has no
+ * such end, and what is left over from earlier calls shows there most.
  */
 public final class ReferenceTests {
     private static final BigInteger LIMIT = BigInteger.ONE.shiftLeft(768);

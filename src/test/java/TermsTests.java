@@ -11,6 +11,8 @@ public final class TermsTests extends Checks {
     }
 
     private static void tokens() {
+        sentence("each result is exactly the number that it should be (limbs at their edges)", TermsTests::exactAtEdges);
+        sentence("each result is exactly the number that it should be (one behind the other)", TermsTests::exactInARow);
         sentence("An object is used for at most 512 calls after it has been made", TermsTests::calls512);
         sentence("0 a NUMBER (0 .. 2^31 - 1)", TermsTests::numberTokens);
         sentence("1 a VARIABLE (0 .. 7)", TermsTests::variableTokens);
@@ -61,6 +63,76 @@ public final class TermsTests extends Checks {
         sentence("REGISTERS: 10", TermsTests::tenRegisters);
         sentence("what is there and not used yet is in one each", TermsTests::oneRegisterEach);
         sentence("A call that throws changes nothing", TermsTests::throwingChangesNothing);
+    }
+
+    private static void exact(BigCalculator x, String text, BigInteger want) {
+        due("compile of " + text, compileText(x, text), 0);
+        due("run of " + text, x.run(10000), 0);
+        dueResult(text, x, want);
+    }
+
+    private static void exactPair(BigInteger a, BigInteger b) {
+        String pair = " of " + a.toString(16) + " and " + b.toString(16) + ", both in base 16";
+        BigCalculator x = new BigCalculator();
+        put(x, 0, a);
+        put(x, 1, b);
+        int before = wrong;
+        exact(x, "a+b", a.add(b));
+        exact(x, "a-b", a.subtract(b));
+        exact(x, "a/b", a.divide(b));
+        exact(x, "a%b", a.mod(b));
+        exact(x, "a/b*b+a%b", a);
+        exact(x, "G(a,b)", a.gcd(b));
+        if (wrong != before) {
+            System.out.println("that was" + pair);
+        }
+    }
+
+    /** Numbers at which a guess of a quotient's limb from the highest limbs alone is too great. */
+    private static void exactAtEdges() {
+        String[] pairs = {
+            "7fffffff800000000000000000000000 800000000000000000000001",
+            "80000000fffffffe00000000 80000000ffffffff",
+            "80000000000000000000000000000000 80000000ffffffff",
+            "8000000000000000fffffffeffffffff 8000000000000000ffffffff",
+            "800000000000000000000000 80000001ffffffff",
+            "800000000000000080000000 80000000fffffffe",
+            "8000000000000001ffffffffffffffff 80000001ffffffffffffffff",
+            "7fffffff80000000000000007fffffff 80000000800000017fffffff",
+            "80000000000000008000000000000001 800000008000000180000000",
+            "ffffffffffffffffffffffffffffffff ffffffff",
+            "ffffffffffffffffffffffffffffffff 100000000",
+            "ffffffff00000000ffffffff00000000 ffffffff00000001",
+            "ffffffffffffffff00000000 ffffffffffffffff",
+            "fffffffefffffffffffffffe ffffffffffffffff",
+            "7fffffffffffffffffffffff 80000000ffffffff",
+            "3fffffffffffffffffffffffc0000000 1ffffffffffffffff",
+            "1000000000000000000000000 ffffffffffffffffffffffff",
+            "ffffffffffffffffffffffff 1000000000000000000000000",
+            "ffffffff 100000000",
+            "100000000 ffffffff",
+        };
+        for (String pair : pairs) {
+            int space = pair.indexOf(' ');
+            exactPair(new BigInteger(pair.substring(0, space), 16), new BigInteger(pair.substring(space + 1), 16));
+        }
+        exactPair(GREATEST.shiftRight(1), powerOfTwo(384).subtract(BigInteger.ONE));
+        exactPair(powerOfTwo(767).subtract(BigInteger.ONE), powerOfTwo(736).add(BigInteger.ONE));
+    }
+
+    /** What an earlier one leaves behind must not be seen in a later one. */
+    private static void exactInARow() {
+        BigCalculator x = new BigCalculator();
+        exact(x, "100/7+1/5", BigInteger.valueOf(14));
+        exact(x, "1/5", BigInteger.ZERO);
+        exact(x, "100%7*100+3%5", BigInteger.valueOf(203));
+        exact(x, "3^400", BigInteger.valueOf(3).pow(400));
+        exact(x, "R(2^700+1)", powerOfTwo(350));
+        exact(x, "3^400-3^400+R(2)", BigInteger.ONE);
+        exact(x, "G(3^400,3)-G(2,4)", BigInteger.ONE);
+        exact(x, "M(3,400,2^700)-M(3,400,2^700)+M(2,3,5)", BigInteger.valueOf(3));
+        exact(x, "-(3^400)*0+2^32*2^32", powerOfTwo(64));
+        exact(x, "(2^700)^1/2^699+0^2", BigInteger.TWO);
     }
 
     private static void calls512() {
